@@ -224,9 +224,6 @@ public final class FiberDesk {
     // ---- the worker ----
 
     private void clearAll() {
-        for (int i = 0; i < MOST_FIBERS; i++) {
-            fibers[i] = null;
-        }
         for (int n = 0; n < PLACES; n++) {
             Place place = placeAt(n);
             if (place != null) {
@@ -240,7 +237,6 @@ public final class FiberDesk {
         steps = 0;
         turns = 0;
         atWork = null;
-        turnStepsLeft = 0;
     }
 
     /** Whether some fiber is at work; if none is, the next turn begins here. */

@@ -11,6 +11,7 @@ public final class ForkTest {
         haltOfItself();
         haltOfTheMasked();
         endingWakesByNumbers();
+        endingWakesNobodyElse();
         endingInterruptsChildren();
         Checks.finish();
     }
@@ -162,6 +163,25 @@ public final class ForkTest {
         p.runOut();
         Checks.due("value of 2", p.exit(2), "4");
         Checks.due("value of 3", p.exit(3), "4");
+    }
+
+    /** Fibers 3 and 4 wait for 1, by JOIN and by HALT, when 2 ends. */
+    private static void endingWakesNobodyElse() {
+        Program p = new Program();
+        int one = p.give(1);
+        int masked = p.fork(p.mask(p.await(0)));
+        int e = p.then(masked, p.fork(p.await(1)), p.fork(p.then(one, p.join())), p.fork(p.then(one, p.halt())), p.await(2));
+        p.start(e, 0);
+        p.runOut();
+        p.desk.keep(1, 9);
+        p.runOut();
+        Checks.due("2 has ended", p.exit(2), "9");
+        Checks.due("3 waits on", p.desk.fiber(3, 7), 1);
+        Checks.due("4 waits on", p.desk.fiber(4, 7), 2);
+        p.desk.keep(0, 9);
+        p.runOut();
+        Checks.due("3", p.exit(3), "INTERRUPT 4");
+        Checks.due("4", p.exit(4), "0");
     }
 
     private static void endingInterruptsChildren() {

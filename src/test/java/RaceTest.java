@@ -8,6 +8,7 @@ public final class RaceTest {
         losersAreInterrupted();
         interruptedRaceLeavesItsFibers();
         loserThatJoinsTheWinner();
+        endOfAnotherIsNoMatter();
         Checks.finish();
     }
 
@@ -104,5 +105,20 @@ public final class RaceTest {
         p.runOut();
         Checks.due("masked", p.exit(2), "INTERRUPT 0");
         Checks.due("the race", p.exit(0), "7");
+    }
+
+    private static void endOfAnotherIsNoMatter() {
+        Program p = new Program();
+        int x = p.then(p.fork(p.give(5)), p.await(0));
+        p.start(p.race(x, p.await(1)), 0);
+        p.runOut();
+        Checks.due("the fork has ended", p.exit(3), "5");
+        Checks.due("the race waits on", p.desk.fiber(0, 7), 3);
+        Checks.due("X is not interrupted", p.desk.fiber(1, 3), 0);
+        Checks.due("Y is not interrupted", p.desk.fiber(2, 3), 0);
+        p.desk.keep(1, 6);
+        p.runOut();
+        Checks.due("the race", p.exit(0), "6");
+        Checks.due("X", p.exit(1), "INTERRUPT 0");
     }
 }

@@ -71,6 +71,8 @@ public final class StartTest {
         Program p = new Program();
         int e = p.then(p.input(1), p.input(1), p.input(1));
         p.start(e, 0);
+        p.start(e, 0);
+        Checks.due("the queue, started twice", p.queue(), "0");
         p.desk.run(3);
         Checks.due("at work", p.desk.count(6), 0);
         p.start(e, 10);
