@@ -59,7 +59,7 @@ final class Program {
     /** Runs until nothing more is done; answers how all stands. */
     int runOut() {
         int stands = FiberDesk.RUNNING;
-        for (int i = 0; i < 400 && stands == FiberDesk.RUNNING; i++) {
+        for (int i = 0; i < 100 && stands == FiberDesk.RUNNING; i++) {
             stands = desk.run(20);
         }
         return stands;
@@ -82,12 +82,22 @@ final class Program {
             return "state " + state;
         }
         StringBuilder text = new StringBuilder();
-        for (int k = 0; desk.cause(f, k, 0) > 0; k++) {
+        for (int k = 0; k < 20 && desk.cause(f, k, 0) > 0; k++) {
             int kind = desk.cause(f, k, 0);
             text.append(k == 0 ? "" : " ").append(CAUSES[kind]);
             if (kind < 4) {
                 text.append(' ').append(desk.cause(f, k, 1));
             }
+        }
+        return text.toString();
+    }
+
+    /** Does e with 0: MASKED of fiber 0 behind each STEP but the last, as digits. */
+    String masks(int e) {
+        StringBuilder text = new StringBuilder();
+        start(e, 0);
+        for (int i = 0; i < 40 && desk.run(1) == FiberDesk.RUNNING; i++) {
+            text.append(desk.fiber(0, 1));
         }
         return text.toString();
     }
@@ -103,7 +113,7 @@ final class Program {
 
     String queue() {
         StringBuilder text = new StringBuilder();
-        for (int k = 0; desk.queued(k) >= 0; k++) {
+        for (int k = 0; k < 20 && desk.queued(k) >= 0; k++) {
             text.append(k == 0 ? "" : " ").append(desk.queued(k));
         }
         return text.toString();
