@@ -14,16 +14,25 @@ public final class FaceTest {
 
     public static void main(String[] args) {
         Class<?> face = FiberDesk.class;
+        Checks.named("the public face, the class", () -> theClass(face));
+        Checks.named("the public face, methods and no more", () -> methods(face));
+        Checks.named("the public face, one constructor", () -> constructors(face));
+        Checks.named("the public face, constants and no more", () -> fields(face));
+        Checks.named("the public face, values of the constants", FaceTest::constants);
+        Checks.named("the classes inside", () -> classesInside(face));
+        Checks.finish();
+    }
+
+    private static void theClass(Class<?> face) {
         Checks.due("public and final", Modifier.toString(face.getModifiers()), "public final");
         Checks.due("no package", face.getPackageName(), "");
-        methods(face);
-        constructors(face);
-        fields(face);
+    }
+
+    private static void classesInside(Class<?> face) {
         for (Class<?> inside : face.getDeclaredClasses()) {
             Checks.due(inside + " is static", Modifier.isStatic(inside.getModifiers()), true);
             Checks.due(inside + " is public", Modifier.isPublic(inside.getModifiers()), false);
         }
-        Checks.finish();
     }
 
     private static void methods(Class<?> face) {
@@ -75,6 +84,9 @@ public final class FaceTest {
         }
         Collections.sort(seen);
         Checks.due("constants", seen.toString(), "[DONE, FULL, REFUSED, RUNNING, STUCK]");
+    }
+
+    private static void constants() {
         Checks.due("REFUSED", FiberDesk.REFUSED, -1);
         Checks.due("FULL", FiberDesk.FULL, -2);
         Checks.due("RUNNING", FiberDesk.RUNNING, 0);

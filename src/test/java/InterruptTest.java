@@ -15,6 +15,7 @@ public final class InterruptTest {
             Checks.edge(5, "WAITS for " + waits + ", not MASKED: READY, at the back", () -> waitsUnmasked(waits));
             Checks.edge(5, "WAITS for " + waits + ", MASKED: it WAITS on", () -> waitsMasked(waits));
         }
+        Checks.edge(5, "READY, at the back of others", InterruptTest::behindOthers);
         Checks.edge(5, "WAITS no more for a promise", InterruptTest::leavesThePromise);
         Checks.edge(5, "WAITS no more for a gate", InterruptTest::leavesTheGate);
         Checks.edge(5, "true, and nothing more, if one is pending", InterruptTest::onePending);
@@ -155,6 +156,16 @@ public final class InterruptTest {
         Checks.due("WAITS", p.desk.fiber(1, 0), 1);
         Checks.due("pending", p.desk.fiber(1, 3), 1);
         Checks.due("the QUEUE", p.queue(), queue);
+    }
+
+    private static void behindOthers() {
+        Program p = new Program();
+        p.start(p.then(p.fork(p.await(0)), p.fork(p.yielding()), p.yielding()), 0);
+        p.desk.run(7);
+        Checks.due("fiber 1 WAITS for", p.desk.fiber(1, 7), 5);
+        Checks.due("the QUEUE", p.queue(), "0 2");
+        p.desk.interrupt(1);
+        Checks.due("the QUEUE then", p.queue(), "0 2 1");
     }
 
     private static void leavesThePromise() {

@@ -10,6 +10,7 @@ public final class KeepTest {
         Checks.edge(6, "false if there is none: too large", () -> noSuchPromise(4, 5, Integer.MAX_VALUE));
         Checks.edge(6, "false if nothing is started", KeepTest::nothingStarted);
         Checks.edge(6, "as by KEEP: those that WAIT go on, in the order in which they came", KeepTest::orderOfComing);
+        Checks.edge(6, "as by KEEP: they are at the back of others", KeepTest::behindOthers);
         Checks.edge(6, "as by KEEP: nobody WAITS", KeepTest::nobodyWaits);
         Checks.edge(6, "as by KEEP: those of another promise WAIT on", KeepTest::othersWaitOn);
         Checks.edge(6, "as by KEEP: those at a gate of that number WAIT on", KeepTest::gatesWaitOn);
@@ -109,6 +110,15 @@ public final class KeepTest {
         p.runOut();
         Checks.due("fiber 0", p.exit(0), "6");
         Checks.due("fiber 1", p.exit(1), "6");
+    }
+
+    private static void behindOthers() {
+        Program p = new Program();
+        p.start(p.then(p.fork(p.await(0)), p.fork(p.yielding()), p.yielding()), 0);
+        p.desk.run(7);
+        Checks.due("the QUEUE", p.queue(), "0 2");
+        p.desk.keep(0, 5);
+        Checks.due("the QUEUE then", p.queue(), "0 2 1");
     }
 
     private static void nobodyWaits() {

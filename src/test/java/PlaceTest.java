@@ -30,6 +30,7 @@ public final class PlaceTest {
             Checks.due("GET " + n, p.outcome(p.get(n), 9), "0");
             int e = p.then(p.set(n), p.give(1), p.get(n));
             Checks.due("GET " + n + " behind SET", p.outcome(e, -8), "-8");
+            Checks.due("the cell stays", p.desk.cell(n, 0), -8);
         }
     }
 
