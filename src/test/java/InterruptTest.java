@@ -1,5 +1,7 @@
 /** Promise 5: interrupt, and what interrupting and delivering are. */
 public final class InterruptTest {
+    private static final String[] REASONS = {"nothing", "JOIN", "HALT", "RACE", "SLEEP", "AWAIT", "TAKE"};
+
     public static void main(String[] args) {
         Checks.edge(5, "false if nothing is started", InterruptTest::nothingStarted);
         Checks.edge(5, "false if there is none: too small", () -> noSuchFiber(-1, Integer.MIN_VALUE));
@@ -12,8 +14,8 @@ public final class InterruptTest {
         Checks.edge(5, "in the QUEUE it keeps its place", InterruptTest::inTheQueue);
         for (int reason = 1; reason <= 6; reason++) {
             int waits = reason;
-            Checks.edge(5, "WAITS for " + waits + ", not MASKED: READY, at the back", () -> waitsUnmasked(waits));
-            Checks.edge(5, "WAITS for " + waits + ", MASKED: it WAITS on", () -> waitsMasked(waits));
+            Checks.edge(5, REASONS[waits] + ", WAITS, not MASKED: it is READY, at the back", () -> waitsUnmasked(waits));
+            Checks.edge(5, REASONS[waits] + ", WAITS, MASKED: it WAITS on", () -> waitsMasked(waits));
         }
         Checks.edge(5, "READY, at the back of others", InterruptTest::behindOthers);
         Checks.edge(5, "WAITS no more for a promise", InterruptTest::leavesThePromise);
